@@ -1,0 +1,63 @@
+import java.lang.reflect.Field;
+import java.lang.reflect.Method;
+import java.lang.reflect.Modifier;
+import java.util.Arrays;
+import java.util.TreeSet;
+
+/** Promise 1, and the public face. */
+public final class NewObjectTest extends DeskCheck {
+  public static void main(String[] args) {
+    answersOfANewObject();
+    objectsShareNothing();
+    face();
+    finish();
+  }
+
+  private static void answersOfANewObject() {
+    PropagationDesk desk = new PropagationDesk();
+    dueValues("new", desk, 0, 0, 0, 0);
+    dueCounts("new", desk, 0, 0, 0, 0);
+    dueEvents("new", desk);
+    due("event(0)", desk.event(0), -1);
+    due("amount(0)", desk.amount(0), 0);
+    due("calls()", desk.calls(), 0);
+    due("size(0)", desk.size(0), 10);
+    due("size(1)", desk.size(1), 0);
+    due("invoke(0)", desk.invoke(0), -1);
+    due("rule(0, 0, true)", desk.rule(0, 0, true), false);
+    due("step(0, 5, 0, 0)", desk.step(0, ONLY, 0, 0), -1);
+    due("rolls(0, 3)", desk.rolls(0, 3), false);
+    due("is(10, 0)", desk.is(10, 0), false);
+    due("kind(10)", desk.kind(10), -1);
+  }
+
+  private static void objectsShareNothing() {
+    PropagationDesk used = new PropagationDesk();
+    used.kind(0);
+    used.set(2, 5);
+    used.invoke(make(used, REQUIRED, PUT, 1, 3));
+    answersOfANewObject();
+  }
+
+  private static void face() {
+    TreeSet<String> names = new TreeSet<>();
+    for (Method method : PropagationDesk.class.getDeclaredMethods()) {
+      if (!Modifier.isPrivate(method.getModifiers())) {
+        due(method.getName() + " is public", Modifier.isPublic(method.getModifiers()), true);
+        due(method.getName() + " is there once", names.add(method.getName()), true);
+      }
+    }
+    TreeSet<String> wanted = new TreeSet<>(Arrays.asList("kind", "method", "rule", "step", "invoke", "set", "value",
+        "is", "rolls", "events", "event", "amount", "calls", "count", "size"));
+    due("the face has just the document's methods", names.equals(wanted), true);
+    for (Method method : PropagationDesk.class.getDeclaredMethods()) {
+      boolean hidden = Modifier.isPrivate(method.getModifiers());
+      due("private " + method.getName() + " has a public name", hidden && wanted.contains(method.getName()), false);
+    }
+    for (Field field : PropagationDesk.class.getDeclaredFields()) {
+      due(field.getName() + " is private", Modifier.isPrivate(field.getModifiers()), true);
+    }
+    due("the class is public and final", Modifier.isPublic(PropagationDesk.class.getModifiers())
+        && Modifier.isFinal(PropagationDesk.class.getModifiers()), true);
+  }
+}
