@@ -197,7 +197,7 @@ public final class PropagationDesk {
 
   /** What comes out of the call: the class of a throwable, or NONE. */
   private int call(int m, Transaction around, int depth) {
-    // The looks at m and depth are never met: steps are checked when they are given.
+    // m and depth are always in bounds, since steps were checked when given; looked at all the same.
     if (callsMade >= MOST_CALLS || depth >= MOST_METHODS || !hasMethod(m)) {
       return OVERRUN;
     }

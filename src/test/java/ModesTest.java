@@ -9,6 +9,7 @@ public final class ModesTest extends DeskCheck {
     never();
     refusalsDoNothingElse();
     whatIsCurrentAfterwards();
+    tenDeep();
     noMethod();
     finish();
   }
@@ -132,6 +133,21 @@ public final class ModesTest extends DeskCheck {
     dueCounts("from one to that one", desk, 6, 6, 0, 0);
     due("and nothing is left over", desk.invoke(checksNone), DONE);
     due("nor is one current", desk.invoke(checksOne), out(MISSING));
+  }
+
+  private static void tenDeep() {
+    for (int mode : new int[] {REQUIRED, REQUIRES_NEW, NESTED, SUPPORTS}) {
+      PropagationDesk desk = new PropagationDesk();
+      make(desk, mode, ADD, 0, 1);
+      for (int m = 1; m < 10; m++) {
+        make(desk, mode, CALL, m - 1, -1);
+      }
+      int begun = mode == REQUIRES_NEW ? 10 : mode == SUPPORTS ? 0 : 1;
+      due("ten deep in mode " + mode, desk.invoke(9), DONE);
+      due("ten deep in mode " + mode + ": calls()", desk.calls(), 10);
+      dueCounts("ten deep in mode " + mode, desk, begun, begun, 0, 0);
+      dueValues("ten deep in mode " + mode, desk, 1);
+    }
   }
 
   private static void noMethod() {

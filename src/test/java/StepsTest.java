@@ -136,6 +136,10 @@ public final class StepsTest extends DeskCheck {
     due("what was committed is seen", desk.amount(2), 1);
     dueValues("what has ended locks nothing", desk, 2);
     due("nor does a former invocation", desk.invoke(outer), DONE);
+    int joined = make(desk, SUPPORTS, ADD, 0, 1);
+    int again = make(desk, REQUIRED, PUT, 0, 5, CALL, empty, -1, CALL, joined, -1);
+    due("nor does one that is current again", desk.invoke(again), DONE);
+    dueValues("nor does one that is current again", desk, 6);
   }
 
   private static void keysStayAfterAMark() {
