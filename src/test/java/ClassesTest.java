@@ -1,12 +1,17 @@
-/** Promises 2 (kind), 9 (is) and 16 (size) of classes. */
+/** Promises 2 (kind), 9 (is) and 16 (size) of classes, and the term CLASSES. */
 public final class ClassesTest extends DeskCheck {
   private static final int[] PARENTS = {-1, 0, 0, 2, 3, 3, 3, 3, 3, 1};
 
   public static void main(String[] args) {
     firstTree();
     furtherClasses();
-    refusedParents();
-    noClasses();
+    firstAndLastParent();
+    noParent();
+    sixteenAreFull();
+    greatestDistance();
+    siblingsAreNotEachOther();
+    isOfNoClass();
+    sizeOfNothing();
     finish();
   }
 
@@ -31,9 +36,6 @@ public final class ClassesTest extends DeskCheck {
       due("kind(" + (c - 1) + ")", desk.kind(c - 1), c);
     }
     due("size(0) of a full tree", desk.size(0), 16);
-    due("a seventeenth class", desk.kind(0), -1);
-    due("size(0) after the refusal", desk.size(0), 16);
-    due("is(16, 0)", desk.is(16, 0), false);
     for (int c = 10; c <= 15; c++) {
       due("is(15, " + c + ")", desk.is(15, c), true);
       due("is(" + c + ", 15)", desk.is(c, 15), c == 15);
@@ -43,29 +45,94 @@ public final class ClassesTest extends DeskCheck {
     }
   }
 
-  private static void refusedParents() {
-    PropagationDesk desk = new PropagationDesk();
-    due("kind(-1)", desk.kind(-1), -1);
-    due("kind(10)", desk.kind(10), -1);
-    due("kind(least)", desk.kind(Integer.MIN_VALUE), -1);
-    due("kind(most)", desk.kind(Integer.MAX_VALUE), -1);
-    due("size(0)", desk.size(0), 10);
-    due("kind(9)", desk.kind(9), 10);
-    due("is(10, ERROR)", desk.is(10, ERROR), true);
-    due("kind(0)", desk.kind(0), 11);
-    due("is(11, 10)", desk.is(11, 10), false);
+  private static void firstAndLastParent() {
+    for (int n = 10; n < 16; n++) {
+      for (int parent : new int[] {0, 1, n - 2, n - 1}) {
+        PropagationDesk desk = withClasses(n);
+        String name = "kind(" + parent + ") of " + n + " classes";
+        due(name, desk.kind(parent), n);
+        due(name + ": size(0)", desk.size(0), n + 1);
+        due(name + ": it is one of its own class", desk.is(n, n), true);
+        due(name + ": it is one of its parent's", desk.is(n, parent), true);
+        due(name + ": its parent is not one of it", desk.is(parent, n), false);
+      }
+    }
   }
 
-  private static void noClasses() {
+  private static void noParent() {
+    for (int n = 10; n < 16; n++) {
+      for (int parent : new int[] {-1, n, n + 1, LEAST, MOST}) {
+        PropagationDesk desk = withClasses(n);
+        String name = "kind(" + parent + ") of " + n + " classes";
+        due(name, desk.kind(parent), -1);
+        due(name + ": size(0)", desk.size(0), n);
+        due(name + ": there is no class " + n, desk.is(n, 0), false);
+        due(name + ": the next class has the number " + n, desk.kind(0), n);
+      }
+    }
+  }
+
+  private static void sixteenAreFull() {
+    for (int parent : new int[] {-1, 0, 9, 10, 14, 15, 16, LEAST, MOST}) {
+      PropagationDesk desk = withClasses(16);
+      due("class 15 is there", desk.is(15, 0), true);
+      String name = "kind(" + parent + ") of 16 classes";
+      due(name, desk.kind(parent), -1);
+      due(name + ": size(0)", desk.size(0), 16);
+      due(name + ": there is no class 16", desk.is(16, 0), false);
+      for (int c = 0; c < 15; c++) {
+        due(name + ": is(15, " + c + ")", desk.is(15, c), c == 0);
+      }
+    }
+  }
+
+  /** The longest chain there can be: 15 .. 10, MISSING, UNCHECKED, CHECKED, THROWABLE. */
+  private static void greatestDistance() {
     PropagationDesk desk = new PropagationDesk();
-    due("is(-1, -1)", desk.is(-1, -1), false);
-    due("is(0, -1)", desk.is(0, -1), false);
-    due("is(-1, 0)", desk.is(-1, 0), false);
-    due("is(10, 10)", desk.is(10, 10), false);
-    due("is(3, 10)", desk.is(3, 10), false);
-    due("is(most, 0)", desk.is(Integer.MAX_VALUE, 0), false);
-    due("is(0, least)", desk.is(0, Integer.MIN_VALUE), false);
-    due("size(-1)", desk.size(-1), -1);
-    due("size(2)", desk.size(2), -1);
+    int last = MISSING;
+    for (int c = 10; c <= 15; c++) {
+      last = desk.kind(last);
+    }
+    int[] chain = {15, 14, 13, 12, 11, 10, MISSING, UNCHECKED, CHECKED, THROWABLE};
+    for (int t = 0; t < chain.length; t++) {
+      for (int c = 0; c < chain.length; c++) {
+        due("is(" + chain[t] + ", " + chain[c] + ")", desk.is(chain[t], chain[c]), t <= c);
+      }
+    }
+    due("is(15, PRESENT)", desk.is(15, PRESENT), false);
+    due("is(15, ERROR)", desk.is(15, ERROR), false);
+  }
+
+  private static void siblingsAreNotEachOther() {
+    PropagationDesk desk = new PropagationDesk();
+    int first = desk.kind(OVERRUN);
+    int second = desk.kind(OVERRUN);
+    due("the first is an ERROR", desk.is(first, ERROR), true);
+    due("the second is an ERROR", desk.is(second, ERROR), true);
+    due("the first is not the second", desk.is(first, second), false);
+    due("the second is not the first", desk.is(second, first), false);
+  }
+
+  private static void isOfNoClass() {
+    for (int n = 10; n <= 16; n++) {
+      PropagationDesk desk = withClasses(n);
+      for (int none : new int[] {-1, n, 16, LEAST, MOST}) {
+        String name = " of " + n + " classes";
+        due("is(" + none + ", itself)" + name, desk.is(none, none), false);
+        for (int c : new int[] {0, 9, n - 1}) {
+          due("is(" + none + ", " + c + ")" + name, desk.is(none, c), false);
+          due("is(" + c + ", " + none + ")" + name, desk.is(c, none), false);
+        }
+      }
+    }
+  }
+
+  private static void sizeOfNothing() {
+    PropagationDesk desk = new PropagationDesk();
+    for (int which : new int[] {-1, 2, LEAST, MOST}) {
+      due("size(" + which + ")", desk.size(which), -1);
+    }
+    due("size(0)", desk.size(0), 10);
+    due("size(1)", desk.size(1), 0);
   }
 }

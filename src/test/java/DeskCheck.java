@@ -32,6 +32,9 @@ abstract class DeskCheck {
   static final int ROLLED_BACK = 2;
   static final int RESTORED = 3;
 
+  static final int LEAST = Integer.MIN_VALUE;
+  static final int MOST = Integer.MAX_VALUE;
+
   static final int DONE = 0;
   static final int COMMIT_EVENT = 9;
   static final int ROLLBACK_EVENT = 10;
@@ -72,6 +75,24 @@ abstract class DeskCheck {
     return 16 * c + 8;
   }
 
+  /** A new object with so many classes, each further one under THROWABLE. */
+  static PropagationDesk withClasses(int n) {
+    PropagationDesk desk = new PropagationDesk();
+    for (int c = 10; c < n; c++) {
+      due("class " + c, desk.kind(THROWABLE), c);
+    }
+    return desk;
+  }
+
+  /** A new object with so many methods, all REQUIRED and without steps. */
+  static PropagationDesk withMethods(int n) {
+    PropagationDesk desk = new PropagationDesk();
+    for (int m = 0; m < n; m++) {
+      due("method " + m, desk.method(REQUIRED), m);
+    }
+    return desk;
+  }
+
   /** A new method with steps, three numbers each: op, a, b. */
   static int make(PropagationDesk desk, int mode, int... steps) {
     int m = desk.method(mode);
@@ -85,6 +106,12 @@ abstract class DeskCheck {
     due(what + ": events()", desk.events(), codes.length);
     for (int i = 0; i < codes.length; i++) {
       due(what + ": event(" + i + ")", desk.event(i), codes[i]);
+    }
+  }
+
+  static void dueAmounts(String what, PropagationDesk desk, int... amounts) {
+    for (int i = 0; i < amounts.length; i++) {
+      due(what + ": amount(" + i + ")", desk.amount(i), amounts[i]);
     }
   }
 

@@ -17,6 +17,14 @@ public final class EndsTest extends DeskCheck {
     marksInMarks();
     markTellsWhichKeysHadOne();
     plainlyNothingMore();
+    stepsInTheirOrder();
+    stepsUntilAThrowable();
+    noSteps();
+    rulesOfEachCallDecide();
+    markOfEachSetOfKeys();
+    markTakesBackWithoutAnyValue();
+    markIsOfThatMoment();
+    countsOverInvocations();
     countsOfNothing();
     finish();
   }
@@ -212,10 +220,135 @@ public final class EndsTest extends DeskCheck {
     dueValues("a suspended one is not spoiled", desk, 3, 1);
   }
 
+  private static void stepsInTheirOrder() {
+    PropagationDesk desk = new PropagationDesk();
+    int m = make(desk, REQUIRED, PUT, 0, 2, ADD, 0, 3, GET, 0, 0, PUT, 0, 9, GET, 0, 0, ADD, 1, 1, GET, 1, 0, GET, 0, 0);
+    due("eight steps", desk.invoke(m), DONE);
+    dueEvents("eight steps", desk, putEvent(0), putEvent(0), gotEvent(0), putEvent(0), gotEvent(0), putEvent(1),
+        gotEvent(1), gotEvent(0), COMMIT_EVENT);
+    dueAmounts("eight steps", desk, 2, 5, 5, 9, 9, 1, 1, 9, 0);
+  }
+
+  /** Seven steps, and a RAISE before, between or behind them: the steps behind it are not done. */
+  private static void stepsUntilAThrowable() {
+    for (int at = 0; at < 8; at++) {
+      PropagationDesk desk = new PropagationDesk();
+      int m = desk.method(SUPPORTS);
+      for (int i = 0; i < 8; i++) {
+        desk.step(m, i == at ? RAISE : ADD, i == at ? CHECKED : 0, 1);
+      }
+      due("raised in step " + at, desk.invoke(m), out(CHECKED));
+      due("raised in step " + at + ": events()", desk.events(), at);
+      due("raised in step " + at + ": value(0)", desk.value(0), at);
+    }
+  }
+
+  private static void noSteps() {
+    PropagationDesk desk = new PropagationDesk();
+    int inner = make(desk, NESTED);
+    int outer = make(desk, REQUIRED, CALL, inner, -1);
+    due("no steps", desk.invoke(inner), DONE);
+    dueEvents("no steps", desk, COMMIT_EVENT);
+    due("no steps, marked", desk.invoke(outer), DONE);
+    dueEvents("no steps, marked", desk, COMMIT_EVENT);
+    dueCounts("no steps", desk, 2, 2, 0, 0);
+  }
+
+  private static void rulesOfEachCallDecide() {
+    PropagationDesk desk = new PropagationDesk();
+    int raising = make(desk, NOT_SUPPORTED, RAISE, CHECKED, 0);
+    int marked = make(desk, NESTED, PUT, 0, 9, CALL, raising, -1);
+    int begun = make(desk, REQUIRED, PUT, 1, 4, CALL, marked, -1);
+    desk.rule(raising, CHECKED, true);
+    due("the innermost one's rule", desk.invoke(begun), out(CHECKED));
+    dueValues("the innermost one's rule is not the others'", desk, 9, 4);
+    desk.set(0, 0);
+    desk.rule(marked, CHECKED, true);
+    due("the marked one's rule", desk.invoke(begun), out(CHECKED));
+    dueValues("the marked one's rule is not the outer one's", desk, 0, 4);
+    desk.set(1, 0);
+    desk.rule(begun, CHECKED, true);
+    due("the outer one's rule", desk.invoke(begun), out(CHECKED));
+    dueValues("the outer one's rule", desk, 0, 0);
+    dueCounts("the three", desk, 3, 2, 1, 2);
+  }
+
+  /** Each set of keys that have an own value at the mark; all four are put afterwards and taken back. */
+  private static void markOfEachSetOfKeys() {
+    for (int owned = 0; owned < 16; owned++) {
+      PropagationDesk desk = new PropagationDesk();
+      int putter = desk.method(SUPPORTS);
+      int getter = make(desk, SUPPORTS, GET, 0, 0, GET, 1, 0, GET, 2, 0, GET, 3, 0);
+      int inner = make(desk, NESTED, PUT, 0, 71, ADD, 1, 72, PUT, 2, 73, ADD, 3, 74, ONLY, 0, 0);
+      int outer = make(desk, REQUIRED, CALL, putter, -1, CALL, inner, -1, CALL, getter, -1);
+      for (int k = 0; k < 4; k++) {
+        desk.set(k, 100 + k);
+        if ((owned >> k & 1) == 1) {
+          desk.step(putter, PUT, k, 10 + k);
+        }
+      }
+      String name = "own values " + owned + " at the mark";
+      due(name, desk.invoke(outer), DONE);
+      int first = Integer.bitCount(owned) + 4;
+      for (int k = 0; k < 4; k++) {
+        int want = (owned >> k & 1) == 1 ? 10 + k : 100 + k;
+        due(name + ": key " + k + " is got", desk.amount(first + k), want);
+        due(name + ": value(" + k + ")", desk.value(k), want);
+      }
+      dueCounts(name, desk, 1, 1, 0, 1);
+    }
+  }
+
+  private static void markTakesBackWithoutAnyValue() {
+    PropagationDesk desk = new PropagationDesk();
+    int inner = make(desk, NESTED, ONLY, 0, 0);
+    int outer = make(desk, REQUIRED, CALL, inner, -1, CALL, inner, -1);
+    due("no own values", desk.invoke(outer), DONE);
+    dueEvents("no own values", desk, COMMIT_EVENT);
+    dueCounts("no own values", desk, 1, 1, 0, 2);
+  }
+
+  /** Two calls in a row mark anew: the second mark has what was put between them. */
+  private static void markIsOfThatMoment() {
+    PropagationDesk desk = new PropagationDesk();
+    int inner = make(desk, NESTED, ADD, 0, 100, ONLY, 0, 0);
+    int outer = make(desk, REQUIRED, CALL, inner, -1, PUT, 0, 5, CALL, inner, -1, GET, 0, 0);
+    due("two marks", desk.invoke(outer), DONE);
+    dueAmounts("two marks", desk, 100, 5, 105, 5, 0);
+    dueValues("two marks", desk, 5);
+    int spoiler = make(desk, SUPPORTS, ONLY, 0, 0);
+    int keeping = make(desk, NESTED, PUT, 1, 8);
+    int between = make(desk, REQUIRED, CALL, keeping, -1, CALL, spoiler, -1, CALL, keeping, -1);
+    due("spoiled between two marks", desk.invoke(between), out(SPOILED));
+    dueCounts("spoiled between two marks", desk, 2, 1, 1, 2);
+  }
+
+  private static void countsOverInvocations() {
+    PropagationDesk desk = new PropagationDesk();
+    int committing = make(desk, REQUIRED);
+    int goingBack = make(desk, REQUIRED, ONLY, 0, 0);
+    int marked = make(desk, NESTED, ONLY, 0, 0);
+    int marking = make(desk, REQUIRED, CALL, marked, -1);
+    for (int i = 0; i < 20; i++) {
+      dueCounts("before round " + i, desk, 4 * i, 2 * i, 2 * i, i);
+      desk.invoke(committing);
+      dueCounts("committed in round " + i, desk, 4 * i + 1, 2 * i + 1, 2 * i, i);
+      desk.invoke(goingBack);
+      dueCounts("rolled back in round " + i, desk, 4 * i + 2, 2 * i + 1, 2 * i + 1, i);
+      desk.invoke(marking);
+      dueCounts("marked in round " + i, desk, 4 * i + 3, 2 * i + 2, 2 * i + 1, i + 1);
+      desk.invoke(marked);
+    }
+  }
+
   private static void countsOfNothing() {
     PropagationDesk desk = new PropagationDesk();
-    for (int which : new int[] {-1, 4, Integer.MIN_VALUE, Integer.MAX_VALUE}) {
+    int inner = make(desk, NESTED, ONLY, 0, 0);
+    desk.invoke(make(desk, REQUIRED, CALL, inner, -1));
+    desk.invoke(inner);
+    for (int which : new int[] {-1, 4, 5, LEAST, MOST}) {
       due("count(" + which + ")", desk.count(which), -1);
     }
+    dueCounts("the others", desk, 2, 1, 1, 1);
   }
 }
