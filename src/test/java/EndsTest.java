@@ -4,6 +4,7 @@ public final class EndsTest extends DeskCheck {
     begunGoesBackAsRolls();
     begunQuietlyBack();
     onlyIsOfJustOneCall();
+    onlyOfAFormerCall();
     onlyAfterTheThrowable();
     joinedSpoils();
     joinedQuietlySpoils();
@@ -66,6 +67,19 @@ public final class EndsTest extends DeskCheck {
     int asking = make(desk, REQUIRED, ONLY, 0, 0, CALL, sibling, -1);
     due("ONLY of an outer call", desk.invoke(asking), DONE);
     dueEvents("ONLY of an outer call", desk, putEvent(1), COMMIT_EVENT, ROLLBACK_EVENT);
+  }
+
+  /** One method twice in an invocation: ONLY is done in the first call, and not in the second, which is LOCKED. */
+  private static void onlyOfAFormerCall() {
+    PropagationDesk desk = new PropagationDesk();
+    int m = make(desk, REQUIRES_NEW, PUT, 1, 4, PUT, 0, 5, ONLY, 0, 0);
+    desk.rule(m, LOCKED, false);
+    int reading = make(desk, REQUIRED, GET, 0, 0, CALL, m, LOCKED);
+    int outer = make(desk, SUPPORTS, CALL, m, -1, CALL, reading, -1);
+    due("ONLY of a former call", desk.invoke(outer), DONE);
+    dueEvents("ONLY of a former call", desk, putEvent(1), putEvent(0), ROLLBACK_EVENT,
+        gotEvent(0), putEvent(1), COMMIT_EVENT, caughtEvent(LOCKED), COMMIT_EVENT);
+    dueValues("ONLY of a former call", desk, 0, 4);
   }
 
   private static void onlyAfterTheThrowable() {

@@ -207,7 +207,8 @@ public final class HooksTest extends DeskCheck {
     PropagationDesk desk = new PropagationDesk();
     int m = make(desk, REQUIRED, PUT, 0, 2, HOOK, 0, 0, RAISE, CHECKED, 0);
     due("CHECKED", desk.invoke(m), out(CHECKED));
-    dueEvents("CHECKED", desk, putEvent(0), hookEvent(0, 3), hookEvent(0, 4), COMMIT_EVENT, hookEvent(0, 5), hookEvent(0, 7));
+    dueEvents("CHECKED", desk, putEvent(0), hookEvent(0, 3), hookEvent(0, 4), COMMIT_EVENT,
+        hookEvent(0, 5), hookEvent(0, 7));
     dueValues("CHECKED", desk, 2);
   }
 

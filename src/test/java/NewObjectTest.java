@@ -1,7 +1,9 @@
+import java.lang.reflect.Constructor;
 import java.lang.reflect.Field;
 import java.lang.reflect.Method;
 import java.lang.reflect.Modifier;
 import java.util.Arrays;
+import java.util.Set;
 import java.util.TreeSet;
 
 /** Promise 1, and the public face. */
@@ -39,24 +41,44 @@ public final class NewObjectTest extends DeskCheck {
     answersOfANewObject();
   }
 
+  private static final String[] FACE = {
+      "public int PropagationDesk.kind(int)",
+      "public int PropagationDesk.method(int)",
+      "public boolean PropagationDesk.rule(int,int,boolean)",
+      "public int PropagationDesk.step(int,int,int,int)",
+      "public int PropagationDesk.invoke(int)",
+      "public boolean PropagationDesk.set(int,int)",
+      "public int PropagationDesk.value(int)",
+      "public boolean PropagationDesk.is(int,int)",
+      "public boolean PropagationDesk.rolls(int,int)",
+      "public int PropagationDesk.events()",
+      "public int PropagationDesk.event(int)",
+      "public int PropagationDesk.amount(int)",
+      "public int PropagationDesk.calls()",
+      "public int PropagationDesk.count(int)",
+      "public int PropagationDesk.size(int)"};
+
   private static void face() {
-    TreeSet<String> names = new TreeSet<>();
+    Set<String> found = new TreeSet<>();
+    Set<String> names = new TreeSet<>();
     for (Method method : PropagationDesk.class.getDeclaredMethods()) {
       if (!Modifier.isPrivate(method.getModifiers())) {
-        due(method.getName() + " is public", Modifier.isPublic(method.getModifiers()), true);
-        due(method.getName() + " is there once", names.add(method.getName()), true);
+        found.add(method.toString());
+        names.add(method.getName());
       }
     }
-    TreeSet<String> wanted = new TreeSet<>(Arrays.asList("kind", "method", "rule", "step", "invoke", "set", "value",
-        "is", "rolls", "events", "event", "amount", "calls", "count", "size"));
-    due("the face has just the document's methods", names.equals(wanted), true);
+    due("the face has just the document's methods, not " + found,
+        found.equals(new TreeSet<>(Arrays.asList(FACE))), true);
     for (Method method : PropagationDesk.class.getDeclaredMethods()) {
       boolean hidden = Modifier.isPrivate(method.getModifiers());
-      due("private " + method.getName() + " has a public name", hidden && wanted.contains(method.getName()), false);
+      due("private " + method.getName() + " has a public name", hidden && names.contains(method.getName()), false);
     }
     for (Field field : PropagationDesk.class.getDeclaredFields()) {
       due(field.getName() + " is private", Modifier.isPrivate(field.getModifiers()), true);
     }
+    Constructor<?>[] constructors = PropagationDesk.class.getDeclaredConstructors();
+    due("there is one constructor", constructors.length, 1);
+    due("it is public and takes nothing", constructors[0].toString().equals("public PropagationDesk()"), true);
     due("the class is public and final", Modifier.isPublic(PropagationDesk.class.getModifiers())
         && Modifier.isFinal(PropagationDesk.class.getModifiers()), true);
   }

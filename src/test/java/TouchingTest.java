@@ -93,7 +93,8 @@ public final class TouchingTest extends DeskCheck {
     int getting = make(desk, NOT_SUPPORTED, GET, 0, 0);
     int outer = make(desk, REQUIRED, PUT, 0, 1, CALL, plain, LOCKED, CALL, adding, LOCKED, CALL, getting, LOCKED, GET, 0, 0);
     due("locked", desk.invoke(outer), DONE);
-    dueEvents("locked", desk, putEvent(0), caughtEvent(LOCKED), caughtEvent(LOCKED), caughtEvent(LOCKED), gotEvent(0), COMMIT_EVENT);
+    dueEvents("locked", desk, putEvent(0), caughtEvent(LOCKED), caughtEvent(LOCKED), caughtEvent(LOCKED),
+        gotEvent(0), COMMIT_EVENT);
     due("own value", desk.amount(4), 1);
     dueValues("locked", desk, 1);
     int failing = make(desk, REQUIRED, GET, 0, 1, CALL, plain, LOCKED, CALL, adding, LOCKED, ONLY, 0, 0);
